@@ -6,11 +6,17 @@ final class Checks {
     }
 
     private final String name;
+    private String sentence = "";
     private int done = 0;
     private int wrong = 0;
 
     Checks(String name) {
         this.name = name;
+    }
+
+    /** The sentence of the document that the answers from here on are due to. */
+    void sentence(String text) {
+        sentence = " [" + text + "]";
     }
 
     void same(String what, long want, long got) {
@@ -29,7 +35,7 @@ final class Checks {
         done++;
         if (!want.equals(got)) {
             wrong++;
-            System.out.println(name + ": " + what + " answered " + got + ", due is " + want);
+            System.out.println(name + ": " + what + " answered " + got + ", due is " + want + sentence);
         }
     }
 

@@ -16,41 +16,36 @@ public final class CoversTest {
         CHECKS.end();
     }
 
-    private static String run(CoverRows x, boolean exact, int inputs, int outputs) {
-        int terms = x.run(exact, Long.MAX_VALUE);
-        return Rows.kept(x, terms, inputs, outputs);
-    }
-
     private static void leastAndQuick() {
         CHECKS.same("nothing is ON", 0, new CoverRows(2, 2).run(true, 0));
         CHECKS.same("nothing is ON", 0, Rows.of(2, 2, "-- 22").run(false, 1));
-        CHECKS.same("all", "-- 11", run(Rows.of(2, 2, "-- 11"), true, 2, 2));
-        CHECKS.same("consensus is left out", "0-1 1, 11- 1", run(Rows.of(3, 1, "0-1 1", "11- 1"), true, 3, 1));
-        CHECKS.same("consensus is left out", "0-1 1, 11- 1", run(Rows.of(3, 1, "0-1 1", "11- 1"), false, 3, 1));
+        CHECKS.same("all", "-- 11", Rows.run(Rows.of(2, 2, "-- 11"), true, 2, 2));
+        CHECKS.same("consensus is left out", "0-1 1, 11- 1", Rows.run(Rows.of(3, 1, "0-1 1", "11- 1"), true, 3, 1));
+        CHECKS.same("consensus is left out", "0-1 1, 11- 1", Rows.run(Rows.of(3, 1, "0-1 1", "11- 1"), false, 3, 1));
         CoverRows x = Rows.of(3, 1, RING);
-        CHECKS.same("least of the ring", "01- 1, 1-0 1, -01 1", run(x, true, 3, 1));
+        CHECKS.same("least of the ring", "01- 1, 1-0 1, -01 1", Rows.run(x, true, 3, 1));
         CHECKS.same("its cost", 9, x.cost());
-        CHECKS.same("quick of the ring", "01- 1, 0-1 1, 10- 1, 1-0 1", run(x, false, 3, 1));
+        CHECKS.same("quick of the ring", "01- 1, 0-1 1, 10- 1, 1-0 1", Rows.run(x, false, 3, 1));
         CHECKS.same("its cost", 12, x.cost());
         CoverRows shared = Rows.of(2, 2, "11 11", "10 20", "01 02");
-        CHECKS.same("one term for two outputs", "11 11", run(shared, true, 2, 2));
+        CHECKS.same("one term for two outputs", "11 11", Rows.run(shared, true, 2, 2));
         CHECKS.same("cost with outputs", 4, shared.cost());
-        CHECKS.same("one term for two outputs", "11 11", run(shared, false, 2, 2));
+        CHECKS.same("one term for two outputs", "11 11", Rows.run(shared, false, 2, 2));
     }
 
     private static void ties() {
         CoverRows cheap = Rows.of(3, 1, "111 1", "110 2", "0-- 0", "--1 2");
-        CHECKS.same("the least cost", "--1 1", run(cheap, true, 3, 1));
-        CHECKS.same("the least cost", "--1 1", run(cheap, false, 3, 1));
+        CHECKS.same("the least cost", "--1 1", Rows.run(cheap, true, 3, 1));
+        CHECKS.same("the least cost", "--1 1", Rows.run(cheap, false, 3, 1));
         CoverRows first = Rows.of(2, 1, "11 1", "10 2", "01 2");
-        CHECKS.same("the first one", "1- 1", run(first, true, 2, 1));
-        CHECKS.same("the first one", "1- 1", run(first, false, 2, 1));
+        CHECKS.same("the first one", "1- 1", Rows.run(first, true, 2, 1));
+        CHECKS.same("the first one", "1- 1", Rows.run(first, false, 2, 1));
         CoverRows dropped = Rows.of(4, 1, "-1-1 1", "001- 1", "1-00 1", "-110 1", "10-1 1");
         int quick = dropped.run(false, 99);
         CHECKS.yes("a cover", dropped.equal());
         CHECKS.yes("the least one is no longer", dropped.run(true, 99) <= quick);
         CoverRows middle = Rows.of(3, 1, "-11 1", "0-1 1", "11- 1");
-        CHECKS.same("the one in the middle goes", "0-1 1, 11- 1", run(middle, false, 3, 1));
+        CHECKS.same("the one in the middle goes", "0-1 1, 11- 1", Rows.run(middle, false, 3, 1));
     }
 
     private static void steps() {
@@ -74,7 +69,7 @@ public final class CoversTest {
 
     private static void keptAsItWas() {
         CoverRows x = Rows.of(2, 2, "1- 10", "-1 01");
-        CHECKS.same("kept", "1- 10, -1 01", run(x, true, 2, 2));
+        CHECKS.same("kept", "1- 10, -1 01", Rows.run(x, true, 2, 2));
         x.literal(0, 0, 0);
         x.to(1, 1, 0);
         x.cube();

@@ -3,7 +3,8 @@ import java.util.Random;
 /** All promises: long runs of calls, right ones and wrong ones, against PlainCovers. */
 public final class RandomRunsTest {
     private static final int RUNS = 250;
-    private static final int CALLS = 300;
+    /** As many as the document lets an object be used for. */
+    private static final int CALLS = 512;
 
     public static void main(String[] args) {
         Checks checks = new Checks("RandomRunsTest");

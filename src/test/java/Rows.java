@@ -22,6 +22,49 @@ final class Rows {
         return fill(new CoverRows(inputs, outputs), cubes);
     }
 
+    /** A cube for each assignment, with kinds for all assignments of output 0, then for those of output 1. */
+    static CoverRows ofTable(int inputs, int outputs, String kinds) {
+        CoverRows x = new CoverRows(inputs, outputs);
+        for (int a = 0; a < 1 << inputs; a++) {
+            int cube = x.cube();
+            for (int i = 0; i < inputs; i++) {
+                x.literal(cube, i, a >> i & 1);
+            }
+            for (int o = 0; o < outputs; o++) {
+                x.to(cube, o, kinds.charAt((o << inputs) + a) - '0');
+            }
+        }
+        return x;
+    }
+
+    /** The digits of the product with this number, as fill() reads them. */
+    static String product(int number, int inputs) {
+        StringBuilder text = new StringBuilder();
+        for (int i = 0, rest = number; i < inputs; i++, rest /= 3) {
+            text.insert(0, "01-".charAt(rest % 3));
+        }
+        return text.toString();
+    }
+
+    static int power(int base, int exponent) {
+        return exponent == 0 ? 1 : base * power(base, exponent - 1);
+    }
+
+    /** Whether the product has the assignment, digit by digit. */
+    static boolean has(String product, int assignment) {
+        for (int i = 0; i < product.length(); i++) {
+            if (product.charAt(i) != '-' && product.charAt(i) - '0' != (assignment >> i & 1)) {
+                return false;
+            }
+        }
+        return true;
+    }
+
+    /** Runs, and shows the terms that are kept then. */
+    static String run(CoverRows x, boolean exact, int inputs, int outputs) {
+        return kept(x, x.run(exact, Long.MAX_VALUE), inputs, outputs);
+    }
+
     /** One cube for each assignment that is ON in the mask, for output 0. */
     static CoverRows ofMask(int inputs, int on) {
         CoverRows x = new CoverRows(inputs, 1);
