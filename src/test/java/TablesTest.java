@@ -8,12 +8,21 @@ public final class TablesTest {
         "11012210201111011110021112011110", "12210111111011112110121110011110",
         "21101001100101120111111111111110", "21101011101111020111111011101021"};
 
+    /** Tables on which the least sum of costs is one below that of a cover with less first primes. */
+    private static final String[] CLOSE = {
+        "10111101011011111111111011110101", "21120222212212122121222122021121",
+        "12211211121101210101111110121022"};
+
     public static void main(String[] args) {
         allTables(3, 1);
         allTables(2, 2);
         for (String kinds : HARD) {
             oneTable(4, 2, kinds);
         }
+        for (String kinds : CLOSE) {
+            oneTable(4, 2, kinds);
+        }
+        oneTable(3, 2, "0201201120121121");
         Random random = new Random(7);
         for (int n = 0; n < 200; n++) {
             oneTable(4, 2, randomKinds(random, 32));

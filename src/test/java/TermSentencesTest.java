@@ -225,6 +225,10 @@ public final class TermSentencesTest {
         CHECKS.same("three primes, though four cost less", "0-0 11, -10 11, --1 10", Rows.run(few, true, 3, 2));
         CHECKS.same("their cost", 10, few.cost());
         CHECKS.same("the least cost, not the first", "--1 1", least(3, "20001222"));
+        CoverRows close = Rows.ofTable(3, 2, "0201201120121121");
+        CHECKS.same("one less cost, though the first two are later ones", "0-- 01, 1-0 10, -11 11, --1 01",
+                Rows.run(close, true, 3, 2));
+        CHECKS.same("its cost", 11, close.cost());
         CHECKS.same("the least first", "1- 1", least(2, "0221"));
         CHECKS.same("the least first, not the least last", "01- 1, -01 1", least(3, "02201110"));
         CHECKS.same("the least second", "10- 1, 1-0 1", least(3, "02210100"));
