@@ -13,6 +13,8 @@ import java.util.TreeSet;
 public final class FaceTest {
     private static final Checks CHECKS = new Checks("FaceTest");
     private static final Path SOURCE = Path.of("src/main/java/CoverRows.java");
+    private static final Path DOCUMENT = Path.of("../shared/DOC.md");
+    private static final int MOST_LINES = 60;
     private static final String FACE = "at(int, int): int, clear(): void, cost(): long, cube(): int, "
             + "diagram(int): int, divide(int): int, equal(): boolean, kernels(): int, "
             + "literal(int, int, int): boolean, order(): int, prime(int, int): int, primes(): int, "
@@ -23,8 +25,11 @@ public final class FaceTest {
 
     public static void main(String[] args) throws IOException {
         publicFace();
+        faceOfTheDocument();
         nothingElseIsOpen();
+        fields();
         text();
+        shortMethods();
         CHECKS.end();
     }
 
@@ -43,6 +48,24 @@ public final class FaceTest {
             constructors.append(names(c.getParameterTypes()));
         }
         CHECKS.same("constructors", "(int, int)", constructors.toString());
+    }
+
+    /** Line for line, so that what each method says it throws, and in which order, is looked at too. */
+    private static void faceOfTheDocument() throws IOException {
+        String source = Files.readString(SOURCE).replaceAll("\\s+", " ");
+        boolean inside = false;
+        int members = 0;
+        for (String line : Files.readAllLines(DOCUMENT)) {
+            if (line.startsWith("```")) {
+                inside = line.equals("```java");
+            } else if (inside && line.startsWith("    public ")) {
+                String head = line.strip();
+                String body = head.contains(" = ") ? head : head.substring(0, head.length() - 1) + " {";
+                CHECKS.yes("written in the source: " + head, source.contains(" " + body));
+                members++;
+            }
+        }
+        CHECKS.same("members of the document's face", 19, members);
     }
 
     private static String names(Class<?>[] types) {
@@ -80,6 +103,49 @@ public final class FaceTest {
                 CHECKS.yes(m.getName() + " takes at most seven", m.getParameterCount() <= 7);
             }
         }
+    }
+
+    private static void fields() {
+        Class<?>[] inside = CoverRows.class.getDeclaredClasses();
+        CHECKS.yes("at most twelve classes", inside.length < 12);
+        fieldsOf(CoverRows.class);
+        for (Class<?> c : inside) {
+            fieldsOf(c);
+        }
+    }
+
+    private static void fieldsOf(Class<?> c) {
+        int own = 0;
+        for (Field f : c.getDeclaredFields()) {
+            if (Modifier.isStatic(f.getModifiers())) {
+                CHECKS.yes(c.getName() + "." + f.getName() + " is final", Modifier.isFinal(f.getModifiers()));
+            } else {
+                CHECKS.yes(c.getName() + "." + f.getName() + " is private", Modifier.isPrivate(f.getModifiers()));
+                own++;
+            }
+        }
+        CHECKS.yes(c.getName() + " has at most twenty fields", own <= 20);
+    }
+
+    /** A method of the class stands four blanks in, one of a class inside it eight. */
+    private static void shortMethods() throws IOException {
+        String outer = "";
+        int outerLines = 0;
+        int innerLines = 0;
+        for (String line : Files.readAllLines(SOURCE)) {
+            outer = isHead(line, "    ") ? line : outer;
+            outerLines = isHead(line, "    ") ? 1 : outerLines + 1;
+            innerLines = isHead(line, "        ") ? 1 : innerLines + 1;
+            boolean inClass = outer.contains(" class ");
+            if (line.equals(inClass ? "        }" : "    }")) {
+                CHECKS.yes("a short method in: " + outer, (inClass ? innerLines : outerLines) <= MOST_LINES);
+            }
+        }
+    }
+
+    private static boolean isHead(String line, String blanks) {
+        return line.startsWith(blanks) && line.length() > blanks.length() && line.charAt(blanks.length()) != ' '
+                && line.endsWith(" {");
     }
 
     /** Things are made by constructors and throws alone, so the calls fill no room. */
